@@ -32,7 +32,7 @@ public final class BoltTailors {
     private static final int BY_GREED = 1;
     private static final int LEAD_ZERO = 1000;
     /** Below every lead and every worth, so that whatever is told is above it. */
-    private static final int UNTOLD = Integer.MIN_VALUE;
+    private static final int UNTOLD = -1000000;
 
     private static final int IS_FROM_LEFT = 1;
     private static final int IS_MATCH = 2;

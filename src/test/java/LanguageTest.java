@@ -11,6 +11,8 @@ import java.util.ArrayList;
 import java.util.Arrays;
 import java.util.List;
 import java.util.TreeSet;
+import java.util.regex.Matcher;
+import java.util.regex.Pattern;
 
 /** The face of the class, the rules of LANGUAGE.md that a test can see, and calls with arguments of any kind. */
 public final class LanguageTest {
@@ -23,7 +25,11 @@ public final class LanguageTest {
     private static final String[] CONSTANTS = {"INVALID_ARGUMENT=-1", "NOT_POSSIBLE=-2", "LIMIT_REACHED=-3",
         "NOT_FOUND=-4", "LONGEST=0", "FOLD=1", "MATCH=2"};
     private static final String[] RULED_OUT = {"->", "::", "catch", "finally", "synchronized", "assert ", "package ",
-        "System.out", "System.nano", "System.current", "Random", "Thread", "Exact(", "extends ", "throw", "\" +", "+ \""};
+        "Random", "Thread", "Exact(", "extends ", "throw", "\" +", "+ \""};
+    /** What of the library LANGUAGE.md lists, and the program uses; its static constants are not listed there. */
+    private static final List<String> LIBRARY = List.of("Math.max", "Math.min", "System.arraycopy", "Arrays.fill");
+    private static final Pattern LIBRARY_USE = Pattern.compile(
+        "\\b(Math|Integer|Long|Short|Byte|Character|Boolean|Double|Float|String|StringBuilder|System|Arrays|List|Objects)\\.\\w+");
     private static final int[] ODD = {Integer.MIN_VALUE, -1000, -5, -1, 0, 1, 2, 3, 4, 5, 6, 9, 13, 20, 33, 97, 126, 1000,
         Integer.MAX_VALUE - 1, Integer.MAX_VALUE};
 
@@ -119,6 +125,10 @@ public final class LanguageTest {
             boolean comment = line.trim().startsWith("/") || line.trim().startsWith("*");
             for (String word : RULED_OUT) {
                 check(comment || !line.contains(word), "line " + (i + 1) + " has " + word);
+            }
+            Matcher use = LIBRARY_USE.matcher(comment || line.startsWith("import ") ? "" : line);
+            while (use.find()) {
+                check(LIBRARY.contains(use.group()), "line " + (i + 1) + " uses " + use.group());
             }
             if (line.matches(" {4}( {4})?[a-z].*\\) \\{")) {
                 start = i;

@@ -1,18 +1,5 @@
 /** Each promise by itself: ordinary calls, the edges that the document names, and wrong arguments. */
-public final class PromiseTest {
-    private static final int INVALID = BoltTailors.INVALID_ARGUMENT;
-    private static final int NOT_POSSIBLE = BoltTailors.NOT_POSSIBLE;
-    private static final int LIMIT = BoltTailors.LIMIT_REACHED;
-    private static final int NONE = BoltTailors.NOT_FOUND;
-    private static final int LONGEST = BoltTailors.LONGEST;
-    private static final int FOLD = BoltTailors.FOLD;
-    private static final int MATCH = BoltTailors.MATCH;
-    private static final boolean LEFT = true;
-    private static final boolean RIGHT = false;
-
-    private static int wrong = 0;
-    private static int promise = 0;
-
+public final class PromiseTest extends Checks {
     public static void main(String[] args) {
         newObject();
         cut();
@@ -40,93 +27,13 @@ public final class PromiseTest {
         undo();
         save();
         restore();
-        System.out.println(wrong == 0 ? "promises: all answers are as due" : "promises: " + wrong + " answers are not as due");
-        if (wrong != 0) {
-            System.exit(1);
-        }
-    }
-
-    // ---- helpers
-
-    private static void due(String call, double got, double want) {
-        if (got != want) {
-            wrong++;
-            System.out.println("promise " + promise + ": " + call + " answered " + got + ", due is " + want);
-        }
-    }
-
-    private static void same(String what, String got, String want) {
-        if (!got.equals(want)) {
-            wrong++;
-            System.out.println("promise " + promise + ": " + what + " is " + got + ", due is " + want);
-        }
-    }
-
-    private static BoltTailors type(BoltTailors x, String text) {
-        for (int i = 0; i < text.length(); i++) {
-            due("append(" + text.charAt(i) + ")", x.append(text.charAt(i)), x.count(12));
-        }
-        return x;
-    }
-
-    private static BoltTailors on(String bolt) {
-        BoltTailors x = type(new BoltTailors(), bolt);
-        if (x.load() < 0) {
-            wrong++;
-            System.out.println("promise " + promise + ": no bolt " + bolt);
-        }
-        return x;
-    }
-
-    private static BoltTailors on(String bolt, int longest, int fold, int match) {
-        BoltTailors x = on(bolt);
-        x.set(LONGEST, longest);
-        x.set(FOLD, fold);
-        x.set(MATCH, match);
-        return x;
-    }
-
-    private static String bolt(BoltTailors x) {
-        StringBuilder text = new StringBuilder();
-        for (int i = 0; i < x.count(0); i++) {
-            text.append((char) ('a' + x.stripe(i)));
-        }
-        return text.toString();
-    }
-
-    /** All that can be looked at, but the pad and the length of the history. */
-    private static String looks(BoltTailors x) {
-        StringBuilder text = new StringBuilder(bolt(x));
-        for (int what = 0; what <= 11; what++) {
-            text.append(' ').append(x.count(what));
-        }
-        for (int tailor = 0; tailor < 2; tailor++) {
-            for (int what = 0; what <= 5; what++) {
-                text.append(' ').append(x.coat(tailor, what));
-            }
-            for (int piece = 0; piece < x.coat(tailor, 1); piece++) {
-                for (int what = 0; what <= 3; what++) {
-                    text.append(' ').append(x.piece(tailor, piece, what));
-                }
-            }
-        }
-        return text.append(' ').append(x.lead(0)).append(' ').append(x.rate()).toString();
-    }
-
-    private static String all(BoltTailors x) {
-        return looks(x) + " pad " + x.count(12) + " " + x.fault(0) + " " + x.fault(1) + " states " + x.count(13);
-    }
-
-    private static BoltTailors emptied() {
-        BoltTailors x = on("ab");
-        x.cut(2, LEFT);
-        return x;
+        end("promises");
     }
 
     // ---- the promises
 
     private static void newObject() {
-        promise = 1;
+        about("promise 1");
         BoltTailors x = new BoltTailors();
         same("bolt", bolt(x), "abcabcabcabc");
         int[] counts = {12, 12, 0, 11, 0, 0, 11, 3, 1, 4, 3, 2, 0, 0};
@@ -146,7 +53,7 @@ public final class PromiseTest {
     }
 
     private static void cut() {
-        promise = 2;
+        about("promise 2");
         BoltTailors x = new BoltTailors();
         String before = all(x);
         due("cut(0, left)", x.cut(0, LEFT), INVALID);
@@ -218,7 +125,7 @@ public final class PromiseTest {
     }
 
     private static void best() {
-        promise = 3;
+        about("promise 3");
         due("best(), over", emptied().best(), NOT_POSSIBLE);
         BoltTailors x = on("aabb", 3, 3, 2);
         due("best() gives up a fold", x.best(), 3);
@@ -242,7 +149,7 @@ public final class PromiseTest {
     }
 
     private static void greedy() {
-        promise = 4;
+        about("promise 4");
         due("greedy(), over", emptied().greedy(), NOT_POSSIBLE);
         BoltTailors x = on("aabb", 3, 3, 2);
         due("greedy() takes the fold", x.greedy(), 5);
@@ -275,7 +182,7 @@ public final class PromiseTest {
     }
 
     private static void again() {
-        promise = 5;
+        about("promise 5");
         BoltTailors x = on("abcde");
         x.cut(1, LEFT);
         x.mirror();
@@ -310,7 +217,7 @@ public final class PromiseTest {
     }
 
     private static void mirror() {
-        promise = 6;
+        about("promise 6");
         BoltTailors x = new BoltTailors();
         due("mirror()", x.mirror(), 8);
         same("bolt", bolt(x), "cbacbacbacba");
@@ -345,7 +252,7 @@ public final class PromiseTest {
     }
 
     private static void set() {
-        promise = 7;
+        about("promise 7");
         BoltTailors x = new BoltTailors();
         int[] low = {1, 0, 0};
         int[] high = {5, 9, 9};
@@ -384,9 +291,9 @@ public final class PromiseTest {
     }
 
     private static void append() {
-        promise = 8;
+        about("promise 8");
         BoltTailors x = new BoltTailors();
-        for (int code : new int[] {32, 127, 0, -1, 31, 128, 256, Integer.MAX_VALUE, Integer.MIN_VALUE, 65536 + 97}) {
+        for (int code : new int[] {32, 127, 0, -1, 31, 128, 256, MAX, MIN, 65536 + 97}) {
             due("append(" + code + ")", x.append(code), INVALID);
         }
         due("count(12)", x.count(12), 0);
@@ -404,7 +311,7 @@ public final class PromiseTest {
     }
 
     private static void clear() {
-        promise = 9;
+        about("promise 9");
         BoltTailors x = new BoltTailors();
         due("clear(), empty", x.clear(), 0);
         type(x, "abc");
@@ -424,7 +331,7 @@ public final class PromiseTest {
     }
 
     private static void fault() {
-        promise = 10;
+        about("promise 10");
         BoltTailors x = new BoltTailors();
         due("fault(-1)", x.fault(-1), INVALID);
         due("fault(2)", x.fault(2), INVALID);
@@ -510,7 +417,7 @@ public final class PromiseTest {
     }
 
     private static void load() {
-        promise = 11;
+        about("promise 11");
         loads("fedcba", "fedcba");
         loads("abcdefabcdefabcdefab", "abcdefabcdefabcdefab");
         loads("a", "a");
@@ -541,7 +448,7 @@ public final class PromiseTest {
     }
 
     private static void play() {
-        promise = 12;
+        about("promise 12");
         BoltTailors x = type(new BoltTailors(), "l4r3l2");
         due("play()", x.play(), 3);
         due("count(2)", x.count(2), 6);
@@ -602,7 +509,7 @@ public final class PromiseTest {
     }
 
     private static void stripe() {
-        promise = 13;
+        about("promise 13");
         BoltTailors x = on("fedcba");
         x.cut(2, LEFT);
         for (int i = 0; i < 6; i++) {
@@ -620,7 +527,7 @@ public final class PromiseTest {
     }
 
     private static void coat() {
-        promise = 14;
+        about("promise 14");
         BoltTailors x = new BoltTailors();
         for (int[] args : new int[][] {{-1, 0}, {2, 0}, {0, -1}, {0, 6}, {1, 6}, {Integer.MIN_VALUE, 3}, {1, Integer.MAX_VALUE}}) {
             due("coat(" + args[0] + ", " + args[1] + ")", x.coat(args[0], args[1]), INVALID);
@@ -648,7 +555,7 @@ public final class PromiseTest {
     }
 
     private static void piece() {
-        promise = 15;
+        about("promise 15");
         BoltTailors x = new BoltTailors();
         for (int[] args : new int[][] {{-1, 0, 0}, {2, 0, 0}, {0, -1, 0}, {0, 0, -1}, {0, 0, 4}, {0, 99, 4}, {3, 99, 0},
             {1, Integer.MIN_VALUE, 0}}) {
@@ -681,7 +588,7 @@ public final class PromiseTest {
     }
 
     private static void count() {
-        promise = 16;
+        about("promise 16");
         BoltTailors x = on("aabcbadd", 3, 1, 0);
         due("count(-1)", x.count(-1), INVALID);
         due("count(14)", x.count(14), INVALID);
@@ -713,7 +620,7 @@ public final class PromiseTest {
     }
 
     private static void left() {
-        promise = 17;
+        about("promise 17");
         BoltTailors x = on("aabbbf");
         int[] first = {2, 3, 0, 0, 0, 1};
         for (int colour = 0; colour < 6; colour++) {
@@ -733,7 +640,7 @@ public final class PromiseTest {
     }
 
     private static void worth() {
-        promise = 18;
+        about("promise 18");
         BoltTailors x = on("acaacb", 4, 9, 8);
         x.cut(1, LEFT);
         x.cut(1, RIGHT);
@@ -762,7 +669,7 @@ public final class PromiseTest {
     }
 
     private static void lead() {
-        promise = 19;
+        about("promise 19");
         BoltTailors x = new BoltTailors();
         due("lead(-1)", x.lead(-1), INVALID);
         due("lead(2)", x.lead(2), INVALID);
@@ -819,7 +726,7 @@ public final class PromiseTest {
     }
 
     private static void leadWith() {
-        promise = 20;
+        about("promise 20");
         BoltTailors x = on("aabb", 3, 3, 2);
         String before = all(x);
         due("leadWith(3, left)", x.leadWith(3, LEFT), 1002);
@@ -841,7 +748,7 @@ public final class PromiseTest {
     }
 
     private static void bestCut() {
-        promise = 21;
+        about("promise 21");
         BoltTailors x = on("aabb", 3, 3, 2);
         String before = all(x);
         due("bestCut(), left ahead of right", x.bestCut(), 3);
@@ -857,7 +764,7 @@ public final class PromiseTest {
     }
 
     private static void ended() {
-        promise = 22;
+        about("promise 22");
         BoltTailors x = on("aabb", 3, 3, 2);
         for (int[] args : new int[][] {{-1, 0, 0}, {2, 0, 0}, {0, -1, 0}, {0, 2, 0}, {0, 0, -1}, {1, 1, 3}, {9, 9, 9}}) {
             due("ended(" + args[0] + ", " + args[1] + ", " + args[2] + ")", x.ended(args[0], args[1], args[2]), INVALID);
@@ -893,7 +800,7 @@ public final class PromiseTest {
     }
 
     private static void rate() {
-        promise = 23;
+        about("promise 23");
         BoltTailors x = on("aabbc");
         due("rate() without any", x.rate(), 0.0);
         x.cut(2, LEFT);
@@ -912,19 +819,19 @@ public final class PromiseTest {
     }
 
     private static void undo() {
-        promise = 24;
+        about("promise 24");
         BoltTailors x = new BoltTailors();
         due("undo(), no state", x.undo(), NOT_POSSIBLE);
         String[] before = new String[7];
         for (int i = 0; i < 7; i++) {
-            before[i] = looks(x);
+            before[i] = i < 3 ? "" : looks(x);
             switch (i) {
-                case 0: x.cut(2, LEFT); break;
-                case 1: x.mirror(); break;
-                case 2: x.set(FOLD, 8); break;
-                case 3: x.best(); break;
-                case 4: type(x, "l1r2").play(); break;
-                case 5: type(x, "abcddcba").load(); break;
+                case 0: type(x, "abcddca").load(); break;
+                case 1: x.cut(1, LEFT); break;
+                case 2: x.mirror(); break;
+                case 3: x.set(FOLD, 8); break;
+                case 4: x.best(); break;
+                case 5: type(x, "l1").play(); break;
                 default: x.greedy(); break;
             }
             due("count(13)", x.count(13), Math.min(i + 1, 4));
@@ -975,7 +882,7 @@ public final class PromiseTest {
     }
 
     private static void save() {
-        promise = 25;
+        about("promise 25");
         BoltTailors x = new BoltTailors();
         due("save()", x.save(), 12);
         due("count(13), no change", x.count(13), 0);
@@ -992,7 +899,7 @@ public final class PromiseTest {
     }
 
     private static void restore() {
-        promise = 26;
+        about("promise 26");
         BoltTailors x = new BoltTailors();
         String empty = all(x);
         due("restore(), no snapshot", x.restore(), NOT_POSSIBLE);
