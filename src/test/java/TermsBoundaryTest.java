@@ -687,9 +687,13 @@ public final class TermsBoundaryTest extends Checks {
         for (int change = 0; change < CHANGES; change++) {
             BoltTailors x = new BoltTailors();
             x.save();
+            boolean readsThePad = change == 6 || change == 7;
+            type(x, readsThePad ? "" : "~~");
             makeChange(x, change);
             due("states after change " + change, x.count(13), 1);
+            due("the pad after change " + change, x.count(12), readsThePad ? 0 : 2);
             due("undo() of change " + change, x.undo(), 0);
+            due("the pad after undo() of change " + change, x.count(12), readsThePad ? 0 : 2);
         }
     }
 
